@@ -575,8 +575,8 @@ public final class WishTrees {
                 latest[n] = 0;
                 times[n] = 0;
                 left[n] = 0;
-                askedNow[n] = false;
-                dropPlan(n);
+                progress[n] = 0;
+                planLengths[n] = 0;
             }
         }
 

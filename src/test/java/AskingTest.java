@@ -108,6 +108,7 @@ public final class AskingTest {
         due("else done first", x.ask(els), DONE);
         due("else only the first", x.all(5), 2);
         due("row under way", x.ask(row), UNDER_WAY);
+        due("row goes on with nothing", x.told(row, 0, 3), 0);
         due("row waits", x.told(row, 3, 1), 0);
         due("row goes on to a failure", x.ask(row), FAILED);
         due("row asked the third", x.told(row, 3, 0), FAILED);
@@ -135,6 +136,7 @@ public final class AskingTest {
         x.world(0);
         due("memo asks not those ahead", x.ask(who), UNDER_WAY);
         due("memo did not ask the test", x.told(who, 1, 1), 1);
+        due("memo as before", x.told(who, 0, 1), 2);
         due("memo goes on with 2", x.told(who, 0, 3), 2);
         due("memo fails", x.ask(who), FAILED);
         due("memo asked 3", x.all(5), 3);
@@ -143,9 +145,13 @@ public final class AskingTest {
         due("memo the test", x.told(who, 1, 1), 2);
         x.world(3);
         x.ticks(2);
+        due("memo is at 2", x.told(who, 0, 3), 2);
+        due("memo given again", x.give(who, 0), 1);
+        due("memo begins anew with the tree", x.told(who, 0, 3), 0);
+        x.ticks(2);
         due("memo done", x.ask(who), DONE);
         due("memo begins anew behind done", x.told(who, 0, 3), 0);
-        due("gain twice, no finish", x.has(0, 1), 2);
+        due("gain each time, no finish", x.has(0, 1), 3);
     }
 
     private static void memoBeginsAnew() {
@@ -291,6 +297,10 @@ public final class AskingTest {
         due("part done", y.ask(slow), UNDER_WAY);
         due("counted", y.told(slow, 0, 3), 1);
         due("kept", y.ask(slow) * 10 + y.told(slow, 0, 3), 31);
+        due("given again", y.give(slow, 0), 1);
+        due("begins anew with the tree", y.told(slow, 0, 3), 0);
+        due("first time", y.ask(slow) * 10 + y.ask(slow), 33);
+        due("second time", y.ask(slow), UNDER_WAY);
         due("done", y.ask(slow), DONE);
     }
 

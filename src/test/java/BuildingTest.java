@@ -191,6 +191,7 @@ public final class BuildingTest {
             due("5 number", x.tree(), i);
             due("6 starts anew", x.node(2, 1, 0, 0), 1);
             due("6 whole", x.node(0, 0, 0, 0), 0);
+            due("7 nothing of the forgotten is left", x.part(i, 0, 5), 2);
         }
         due("5 full", x.tree(), FULL);
         due("5 whole trees", x.all(1), 8);
@@ -338,16 +339,23 @@ public final class BuildingTest {
         due("13 flag is off", x.has(0, 1), 0);
         due("13 row", x.cell(0, 3, 6), 1);
         due("13 row is", x.has(0, 1), 6);
-        x.row(0, 5, 3);
+        for (int i = 0; i < 6; i++) {
+            x.row(0, i, 3);
+        }
         due("13 row anew", x.cell(0, 3, 6), 1);
         x.tree();
-        x.node(1, 3, 0, 5);
+        x.node(3, 6, 0, 0);
+        for (int i = 0; i < 6; i++) {
+            x.node(1, 3, 0, i);
+        }
         x.creature();
         x.give(0, 0);
         due("13 zeros", x.ask(0), 2);
+        due("13 all were asked", x.all(5), 7);
         due("13 zeros without a finding", x.count(0, 4), 0);
         due("13 empty row", x.cell(0, 3, 0), 1);
         due("13 is empty", x.has(0, 0) * 10 + x.has(0, 1), 30);
+        x.cell(0, 1, 8);
         due("13 nothing, v not looked at", x.cell(0, 0, -9), 1);
         due("13 nothing is", x.has(0, 0), 0);
         due("13 nothing has 0", x.has(0, 1), 0);

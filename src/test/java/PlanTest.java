@@ -21,6 +21,7 @@ public final class PlanTest {
         wishIsHad();
         followsAndReplans();
         foretoldAgainstFacts();
+        onePlanFromOtherFacts();
         failsUnderWay();
         noPlan();
         losesThePlan();
@@ -255,6 +256,38 @@ public final class PlanTest {
         due("none", y.plan(spoilt, 0, 0), NONE);
         due("none failed of the doings", y.count(spoilt, 3), 0);
         due("one plan was made", y.count(spoilt, 7), 1);
+    }
+
+    private static void onePlanFromOtherFacts() {
+        WishTrees x = new WishTrees();
+        learn(x, 1, 1, 0, 0, 1, 1);
+        learn(x, 1, 1, 1, 1, 2, 2);
+        learn(x, 1, 1, 2, 2, 4, 4);
+        x.world(64);
+        int who = grow(x, n(9, 4, 4, 0));
+        due("1 of 3", x.ask(who), UNDER_WAY);
+        due("2 of 3", x.ask(who), UNDER_WAY);
+        due("3 of 3", x.ask(who), DONE);
+        due("one plan for all", x.count(who, 7), 1);
+        x.world(160);
+        x.ticks(3);
+        due("the second plan", x.count(who, 7), 2);
+        due("facts", x.all(3), 167);
+        // all ten doings, the last one first
+        WishTrees y = new WishTrees();
+        for (int i = 0; i < 8; i++) {
+            int left = 1 << i + 1 & 255;
+            learn(y, 1, 10, left, left, 1 << i, 1 << i);
+        }
+        learn(y, 1, 0, 0, 0, 1, 0);
+        learn(y, 1, 100, 0, 0, 192, 64);
+        int all = grow(y, n(9, 65, 65, 0));
+        y.ask(all);
+        plan("from the top", y, all, 0, 7, 6, 5, 4, 3, 2, 1, 0);
+        y.ticks(6);
+        due("the eighth", y.ask(all), DONE);
+        due("eight done", y.count(all, 1), 8);
+        due("one plan", y.count(all, 7), 1);
     }
 
     private static void failsUnderWay() {
