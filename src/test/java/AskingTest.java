@@ -1,17 +1,6 @@
 /** Promises 10, 11, 16, 17 and 19, and how NODES answer and what comes behind a TICK. */
-public final class AskingTest {
-    private static final int BAD = -1, STATE = -2, NONE = -4;
-    private static final int DONE = 1, FAILED = 2, UNDER_WAY = 3;
-    private static int wrong = 0;
-
-    private static void due(String call, long got, long want) {
-        if (got != want) {
-            wrong++;
-            System.out.println(call + " answered " + got + ", due is " + want);
-        }
-    }
-
-    public static void main(String[] args) {
+public final class AskingTest extends Checks {
+    public static void main(String[] args) throws Exception {
         tests();
         rowAndElse();
         memo();
@@ -20,42 +9,14 @@ public final class AskingTest {
         besideBreaksOff();
         guard();
         again();
-        not();
+        opposite();
         doing();
         ask();
         ticks();
         told();
         asked();
         count();
-        if (wrong > 0) {
-            System.exit(1);
-        }
-        System.out.println("AskingTest: all answers are as due");
-    }
-
-    /** A tree told as rows of kind, a, b, c; given to a new creature. */
-    private static int grow(WishTrees x, int[]... nodes) {
-        int tree = x.tree();
-        int last = 1;
-        for (int[] n : nodes) {
-            last = x.node(n[0], n[1], n[2], n[3]);
-        }
-        due("the tree is whole", last, 0);
-        int creature = x.creature();
-        due("give", x.give(creature, tree), 0);
-        return creature;
-    }
-
-    private static int[] n(int kind, int a, int b, int c) {
-        return new int[] {kind, a, b, c};
-    }
-
-    private static int[] fact(int f) {
-        return n(1, 4, 0, f);
-    }
-
-    private static int[] act(int d) {
-        return n(0, d, 0, 0);
+        end("AskingTest", args);
     }
 
     private static void tests() {
@@ -304,7 +265,7 @@ public final class AskingTest {
         due("done", y.ask(slow), DONE);
     }
 
-    private static void not() {
+    private static void opposite() {
         WishTrees x = new WishTrees();
         x.doing(2, 0);
         x.facts(0, false, 1, 1);

@@ -1,16 +1,6 @@
 /** Promises 1 to 9, 12 to 15, 20 and 21: what is told before and beside the TICKS. */
-public final class BuildingTest {
-    private static final int BAD = -1, STATE = -2, FULL = -3, NONE = -4;
-    private static int wrong = 0;
-
-    private static void due(String call, long got, long want) {
-        if (got != want) {
-            wrong++;
-            System.out.println(call + " answered " + got + ", due is " + want);
-        }
-    }
-
-    public static void main(String[] args) {
+public final class BuildingTest extends Checks {
+    public static void main(String[] args) throws Exception {
         newObject();
         doing();
         facts();
@@ -25,10 +15,7 @@ public final class BuildingTest {
         has();
         all();
         part();
-        if (wrong > 0) {
-            System.exit(1);
-        }
-        System.out.println("BuildingTest: all answers are as due");
+        end("BuildingTest", args);
     }
 
     private static void newObject() {

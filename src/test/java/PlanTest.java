@@ -1,17 +1,6 @@
 /** PLANS: promise 18, what 2, 3, 16, 19 say of them, and which plan is made. */
-public final class PlanTest {
-    private static final int BAD = -1, NONE = -4;
-    private static final int DONE = 1, FAILED = 2, UNDER_WAY = 3;
-    private static int wrong = 0;
-
-    private static void due(String call, long got, long want) {
-        if (got != want) {
-            wrong++;
-            System.out.println(call + " answered " + got + ", due is " + want);
-        }
-    }
-
-    public static void main(String[] args) {
+public final class PlanTest extends Checks {
+    public static void main(String[] args) throws Exception {
         planCall();
         leastCost();
         thenFewest();
@@ -27,40 +16,7 @@ public final class PlanTest {
         losesThePlan();
         doneByTheWorld();
         besideAndNot();
-        if (wrong > 0) {
-            System.exit(1);
-        }
-        System.out.println("PlanTest: all answers are as due");
-    }
-
-    private static int learn(WishTrees x, int ticks, int cost, int needMask, int needs, int makeMask, int makes) {
-        int d = x.doing(ticks, cost);
-        x.facts(d, false, needMask, needs);
-        x.facts(d, true, makeMask, makes);
-        return d;
-    }
-
-    private static int grow(WishTrees x, int[]... nodes) {
-        int tree = x.tree();
-        int last = 1;
-        for (int[] n : nodes) {
-            last = x.node(n[0], n[1], n[2], n[3]);
-        }
-        due("the tree is whole", last, 0);
-        int creature = x.creature();
-        due("give", x.give(creature, tree), 0);
-        return creature;
-    }
-
-    private static int[] n(int kind, int a, int b, int c) {
-        return new int[] {kind, a, b, c};
-    }
-
-    private static void plan(String name, WishTrees x, int who, int node, int... doings) {
-        for (int i = 0; i < doings.length; i++) {
-            due(name + " plan at " + i, x.plan(who, node, i), doings[i]);
-        }
-        due(name + " plan's end", x.plan(who, node, doings.length), NONE);
+        end("PlanTest", args);
     }
 
     private static void planCall() {
@@ -92,7 +48,7 @@ public final class PlanTest {
         learn(x, 20, 1, 3, 3, 4, 4);
         int who = grow(x, n(9, 4, 4, 0));
         x.ask(who);
-        plan("least cost", x, who, 0, 1, 2, 3);
+        duePlan("least cost", x, who, 0, 1, 2, 3);
         due("first under way", x.told(who, 0, 2), 19);
         WishTrees y = new WishTrees();
         learn(y, 1, 8, 0, 0, 4, 4);
@@ -111,13 +67,13 @@ public final class PlanTest {
         learn(x, 2, 6, 0, 0, 4, 4);
         int who = grow(x, n(9, 4, 4, 0));
         x.ask(who);
-        plan("fewest", x, who, 0, 2);
+        duePlan("fewest", x, who, 0, 2);
         WishTrees y = new WishTrees();
         learn(y, 2, 0, 0, 0, 8, 8);
         learn(y, 2, 0, 0, 0, 4, 4);
         int free = grow(y, n(9, 4, 4, 0));
         y.ask(free);
-        plan("no needless one", y, free, 0, 1);
+        duePlan("no needless one", y, free, 0, 1);
     }
 
     private static void thenLeastFirst() {
@@ -128,7 +84,7 @@ public final class PlanTest {
         learn(x, 2, 1, 0, 0, 1, 1);
         int who = grow(x, n(9, 7, 7, 0));
         x.ask(who);
-        plan("least first", x, who, 0, 0, 1, 2);
+        duePlan("least first", x, who, 0, 0, 1, 2);
         // the least first one can not be followed by the least second one
         WishTrees y = new WishTrees();
         learn(y, 2, 1, 2, 2, 4, 4);
@@ -136,7 +92,7 @@ public final class PlanTest {
         learn(y, 2, 1, 0, 0, 2, 2);
         int other = grow(y, n(9, 7, 7, 0));
         y.ask(other);
-        plan("least first that can be", y, other, 0, 1, 2, 0);
+        duePlan("least first that can be", y, other, 0, 1, 2, 0);
     }
 
     /** A counter of four bits: a doing for each carry. */
@@ -170,7 +126,7 @@ public final class PlanTest {
         learn(x, 1, 99, 15, 1, 15, 12);
         int who = grow(x, n(9, 15, 13, 0));
         x.ask(who);
-        plan("the row is kept to twelve", x, who, 0, 0, 5, 0);
+        duePlan("the row is kept to twelve", x, who, 0, 0, 5, 0);
     }
 
     private static void wishIsHad() {
@@ -184,7 +140,7 @@ public final class PlanTest {
         due("no plan", x.told(who, 0, 3), NONE);
         int zero = grow(x, n(9, 8, 0, 0));
         due("a wish of zeros", x.ask(zero), DONE);
-        learn(x, 1, 1, 0, 0, 0, 0);
+        x.doing(1, 1);
         int no = grow(x, n(9, 8, 8, 0));
         due("no doing makes it", x.ask(no), FAILED);
     }
@@ -198,7 +154,7 @@ public final class PlanTest {
         x.effect(1, 0, 10, 1000);
         int who = grow(x, n(9, 4, 4, 0));
         due("first done", x.ask(who), UNDER_WAY);
-        plan("made", x, who, 0, 0, 1, 2);
+        duePlan("made", x, who, 0, 0, 1, 2);
         due("place 1", x.told(who, 0, 3), 1);
         due("none under way", x.told(who, 0, 2), 0);
         due("second begins", x.ask(who), UNDER_WAY);
@@ -210,7 +166,7 @@ public final class PlanTest {
         x.world(1);
         due("not as foretold: a new plan", x.ask(who), UNDER_WAY);
         due("two plans", x.count(who, 7), 2);
-        plan("made anew", x, who, 0, 1, 2);
+        duePlan("made anew", x, who, 0, 1, 2);
         due("place 0", x.told(who, 0, 3), 0);
         due("begun", x.told(who, 0, 2), 1);
         x.world(129);
@@ -283,7 +239,7 @@ public final class PlanTest {
         learn(y, 1, 100, 0, 0, 192, 64);
         int all = grow(y, n(9, 65, 65, 0));
         y.ask(all);
-        plan("from the top", y, all, 0, 7, 6, 5, 4, 3, 2, 1, 0);
+        duePlan("from the top", y, all, 0, 7, 6, 5, 4, 3, 2, 1, 0);
         y.ticks(6);
         due("the eighth", y.ask(all), DONE);
         due("eight done", y.count(all, 1), 8);
