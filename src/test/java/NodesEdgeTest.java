@@ -17,9 +17,11 @@ public final class NodesEdgeTest extends Checks {
         notAskedIsBrokenOff();
         endedBesideBreaksOff();
         nestedBesides();
+        brokenOffAtEachTick();
         whatIsNotBrokenOff();
         memoBeginsAnew();
         againBeginsAnew();
+        givenAnew();
         anothersTick();
         end("NodesEdgeTest", args);
     }
@@ -485,6 +487,48 @@ public final class NodesEdgeTest extends Checks {
         due("in the inner memo", x.told(outer, 5, 2), 0);
     }
 
+    private static void brokenOffAtEachTick() {
+        says("each DOING (of a PLAN, too) that is under way, and was not asked in this TICK, or is within a BESIDE that answered "
+            + "DONE, FAILED in it, or whose PLAN is DONE, is BROKEN OFF");
+        // from the first of its ticks to the last but one, with one tick left
+        for (int ticks = 1; ticks <= 19; ticks += ticks == 1 ? 8 : 5) {
+            for (int planned = 0; planned < 2; planned++) {
+                int[] acts = planned == 0 ? act(0) : wish(2, 2);
+                int[][][] around = {{els(2), fact(0), acts}, {beside(2, 1), fact(0), acts}, {beside(2, 1), acts, fact(0)}};
+                for (int[][] nodes : around) {
+                    WishTrees x = begunFor(ticks, nodes);
+                    x.world(1);
+                    // within a BESIDE it is asked once more: what is done then is not broken off
+                    boolean isDone = nodes[0][0] == 4 && ticks == 19;
+                    x.ask(0);
+                    due(ticks + " of twenty, broken off", x.count(0, 2), isDone ? 0 : 1);
+                    due(ticks + " of twenty, finish or gain", x.has(0, 1), isDone ? 1 : 7);
+                    due(ticks + " of twenty, left", x.told(0, 1, 2) + x.told(0, 2, 2), 0);
+                }
+                WishTrees x = begunFor(ticks, acts);
+                due(ticks + " of twenty, given another", x.give(0, NONE), 1);
+                due(ticks + " of twenty, finish", x.has(0, 1), 7);
+            }
+            WishTrees x = begunFor(ticks, wish(2, 2));
+            x.world(2);
+            due(ticks + " of twenty, whose plan is done", x.ask(0), DONE);
+            due(ticks + " of twenty, broken off", x.count(0, 2), 1);
+            due(ticks + " of twenty, finish", x.has(0, 1), 7);
+        }
+    }
+
+    /** A creature 0 whose doing of twenty ticks, of gain 1 and finish 7 in cell 0, has had so many of them. */
+    private static WishTrees begunFor(int ticks, int[]... nodes) {
+        WishTrees x = new WishTrees();
+        effective(x, 20, 0, 1, 7);
+        x.facts(0, true, 2, 2);
+        grow(x, nodes);
+        for (int i = 0; i < ticks; i++) {
+            due("under way", x.ask(0), UNDER_WAY);
+        }
+        return x;
+    }
+
     private static void whatIsNotBrokenOff() {
         says("is BROKEN OFF: its FINISH comes, it is under way no more (a PLAN has no plan then).");
         WishTrees x = new WishTrees();
@@ -557,6 +601,22 @@ public final class NodesEdgeTest extends Checks {
         due("at 1 still", x.told(who, 0, 3), 1);
         due("done", x.ask(who), DONE);
         due("begins anew behind done", x.told(who, 0, 3), 0);
+    }
+
+    private static void givenAnew() {
+        says("A CREATURE gets a whole TREE (NONE: none)");
+        WishTrees x = new WishTrees();
+        x.doing(9, 0);
+        int who = grow(x, beside(3, 3), again(9), fact(0), memo(3), fact(0), fact(0), act(0), fact(1));
+        x.world(3);
+        for (int ticks = 0; ticks < 4; ticks++) {
+            x.ticks(ticks);
+            due("done so often", x.told(who, 1, 3), ticks);
+            due("goes on with", x.told(who, 3, 3), ticks == 0 ? 0 : 2);
+            due("given the same", x.give(who, 0), ticks == 0 ? 0 : 1);
+            due("none since", x.told(who, 1, 3), 0);
+            due("goes on with the first", x.told(who, 3, 3), 0);
+        }
     }
 
     private static void againBeginsAnew() {
