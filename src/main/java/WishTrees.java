@@ -541,8 +541,10 @@ public final class WishTrees {
             for (int n = 0; n < nodes; n++) {
                 sizes[n] = 1;
             }
-            for (int n = nodes - 1; n > 0; n--) {
-                sizes[parents[n]] += sizes[n];
+            for (int n = nodes - 1; n >= 0; n--) {
+                if (parents[n] != NONE) {
+                    sizes[parents[n]] += sizes[n];
+                }
             }
         }
     }
